@@ -213,7 +213,8 @@ public final class PayoutDesk {
         if (!isDay(day)) {
             return NONE;
         }
-        beginTrial();
+        trial.copyFrom(now);
+        trialLedger.ties.reckon(told, trial);
         return paidOn(day);
     }
 
@@ -221,7 +222,8 @@ public final class PayoutDesk {
         if (!isDay(from) || !isDay(to) || to < from || what < 0 || what > 1) {
             return NONE;
         }
-        beginTrial();
+        trial.copyFrom(now);
+        trialLedger.ties.reckon(told, trial);
         // Only where a high or a loan begins or ends to count can PAID change: no other day is first.
         int best = from;
         for (int h = 0; h < told.highCount; h++) {
@@ -247,7 +249,7 @@ public final class PayoutDesk {
         if (index == NONE) {
             throw new NoSuchElementException("nobody has this mark");
         }
-        beginTrial();
+        trial.copyFrom(now);
         trial.leaveOut(index, !now.isLeftOut(index));
         return gainOfTrial();
     }
@@ -256,7 +258,7 @@ public final class PayoutDesk {
         if (!areTwo(person, other)) {
             throw new NoSuchElementException("no two persons");
         }
-        beginTrial();
+        trial.copyFrom(now);
         trial.addJoin(person, other);
         return gainOfTrial();
     }
@@ -372,7 +374,7 @@ public final class PayoutDesk {
 
     private void refresh() {
         shares.reckon(told, now);
-        ledger.groupBy(told, now);
+        ledger.ties.reckon(told, now);
         ledger.sumUp(told, now, shares);
     }
 
@@ -410,11 +412,6 @@ public final class PayoutDesk {
         return together;
     }
 
-    private void beginTrial() {
-        trial.copyFrom(now);
-        trialLedger.groupBy(told, trial);
-    }
-
     private long paidOn(int day) {
         trial.settings[CLOSED] = day;
         trialLedger.sumUp(told, trial, shares);
@@ -433,7 +430,7 @@ public final class PayoutDesk {
     }
 
     private long gainOfTrial() {
-        trialLedger.groupBy(told, trial);
+        trialLedger.ties.reckon(told, trial);
         trialLedger.sumUp(told, trial, shares);
         return trialLedger.paidTogether() - ledger.paidTogether();
     }
@@ -454,6 +451,8 @@ public final class PayoutDesk {
         private int next;
         private int kind;
         private int place;
+        // The byte at its place.
+        private int first;
         private int number;
         // The letters, eight bits each, the last one lowest: like WORDS are like numbers.
         private long word;
@@ -474,16 +473,18 @@ public final class PayoutDesk {
         }
 
         void advance() {
-            while (next < end && isBlank(byteAt(next))) {
+            while (next < end && (bytes[next] == 32 || bytes[next] == 10)) {
                 next++;
             }
             place = next;
-            int first = byteAt(place);
             if (place >= end) {
                 kind = END;
-            } else if (isLetter(first)) {
+                return;
+            }
+            first = bytes[place];
+            if (first >= 'a' && first <= 'z') {
                 takeWord();
-            } else if (isDigit(first)) {
+            } else if (first >= '0' && first <= '9') {
                 takeNumber();
             } else if (first == ';') {
                 kind = SEMICOLON;
@@ -493,14 +494,10 @@ public final class PayoutDesk {
             }
         }
 
-        int firstLetter() {
-            return byteAt(place) - 'a';
-        }
-
         private void takeWord() {
             word = 0;
-            while (next < end && isLetter(byteAt(next))) {
-                word = word << 8 | byteAt(next);
+            while (next < end && bytes[next] >= 'a' && bytes[next] <= 'z') {
+                word = word << 8 | bytes[next];
                 next++;
             }
             kind = next - place <= LONGEST_WORD ? WORD : NO_TOKEN;
@@ -508,27 +505,11 @@ public final class PayoutDesk {
 
         private void takeNumber() {
             number = 0;
-            while (next < end && isDigit(byteAt(next))) {
-                number = number * 10 + (byteAt(next) - '0');
+            while (next < end && bytes[next] >= '0' && bytes[next] <= '9') {
+                number = number * 10 + (bytes[next] - '0');
                 next++;
             }
             kind = next - place <= LONGEST_NUMBER ? NUMBER : NO_TOKEN;
-        }
-
-        private int byteAt(int index) {
-            return index >= 0 && index < bytes.length ? bytes[index] & 255 : 0;
-        }
-
-        private static boolean isBlank(int b) {
-            return b == 32 || b == 10;
-        }
-
-        private static boolean isLetter(int b) {
-            return b >= 'a' && b <= 'z';
-        }
-
-        private static boolean isDigit(int b) {
-            return b >= '0' && b <= '9';
         }
     }
 
@@ -623,7 +604,7 @@ public final class PayoutDesk {
             if (!atNewName()) {
                 return false;
             }
-            person.begin(tape.word, tape.firstLetter());
+            person.begin(tape.word, tape.first - 'a');
             tape.advance();
             if (!readMarks(person)) {
                 return false;
@@ -870,7 +851,6 @@ public final class PayoutDesk {
             name = newName;
             firstLetter = letter;
             markCount = 0;
-            insider = false;
         }
 
         boolean hasMark(int mark) {
@@ -1381,6 +1361,7 @@ public final class PayoutDesk {
         // Enough to bring any long down to nothing.
         private static final int HALVINGS = 64;
 
+        // To be reckoned ahead of the sums.
         private final Ties ties = new Ties();
         private final long[] has = new long[MOST_PERSONS];
         private final long[] owes = new long[MOST_PERSONS];
@@ -1388,10 +1369,6 @@ public final class PayoutDesk {
         private final boolean[] insider = new boolean[MOST_PERSONS];
         private long cover;
         private long raise;
-
-        void groupBy(Book book, State state) {
-            ties.reckon(book, state);
-        }
 
         void sumUp(Book book, State state, Shares shares) {
             cover = state.settings[COVER];
@@ -1438,7 +1415,7 @@ public final class PayoutDesk {
         }
 
         long net(int d) {
-            return has[d] - setOff(d);
+            return Math.max(has[d] - owes[d], 0);
         }
 
         long limit(int d, long someCover) {

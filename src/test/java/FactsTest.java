@@ -23,6 +23,7 @@ final class FactsTest {
         setOffAndLimits();
         allTogether();
         ranked();
+        twelveDepositors();
         Check.finish("FactsTest");
     }
 
@@ -221,5 +222,43 @@ final class FactsTest {
         for (int k = 0; k < 5; k++) {
             Check.due("ranked(" + k + ")", like.ranked(k), order[k]);
         }
+    }
+
+    /** A full BOOK in which nobody is one with another: each has his balance, 1 more than the one ahead. */
+    private static void twelveDepositors() {
+        StringBuilder text = new StringBuilder();
+        for (int p = 0; p < 12; p++) {
+            text.append("person p").append((char) ('a' + p)).append(p % 4 == 3 ? " insider;" : ";");
+        }
+        text.append("trust ta pa 1 pb 2 pc 3 pd 4 pe 5;trust tb pf 6 pg 7 ph 8 pi 9 pj 10;trust tc pk 11 pl 12;");
+        text.append("account x balance 78 ta 15 tb 40 tc 23;cover 11;");
+        PayoutDesk desk = Check.told(text.toString());
+        row("all", w -> desk.all(w), 78, 0, 77, 1, 0, 12, 1);
+        desk.tell(1, 4);
+        row("all", w -> desk.all(w), 78, 0, 42, 36, 0, 12, 8);
+        for (int d = 0; d < 12; d++) {
+            long claim = Math.max(d + 1 - 4, 0);
+            Check.due("NET of " + d, desk.view(d, 3), d + 1);
+            Check.due("CLAIM of " + d, desk.view(d, 7), claim);
+            Check.due("who(" + d + ")", desk.who(d), 1 << d);
+            Check.due("person(" + d + ", 5)", desk.person(d, 5), d);
+            Check.due("estate of " + d, desk.estate(1000, d), claim);
+            Check.due("ranked", desk.ranked(d), d < 8 ? 11 - d : d - 8);
+            Check.due("apart(" + d + ", 11)", desk.apart(d, 11), d == 11 ? 0 : -1);
+        }
+        Check.due("who(12)", desk.who(12), -1);
+        Check.due("ranked(12)", desk.ranked(12), -1);
+        Check.due("view(12, 0)", desk.view(12, 0), -1);
+        Check.due("estate(5, 12)", desk.estate(5, 12), -2);
+        // The INSIDERS are the 4th, 8th, 12th: their CLAIMS are 0, 4, 8.
+        Check.due("enough(1)", desk.enough(1), 42 + 24);
+        Check.due("enough(2)", desk.enough(2), 42 + 36);
+        Check.due("estate(72, 7)", desk.estate(72, 7), 2);
+        Check.due("estate(72, 11)", desk.estate(72, 11), 4);
+        Check.due("onDay(5)", desk.onDay(5), 42);
+        Check.due("coverFor(100)", desk.coverFor(100), 12);
+        Check.due("joining(10, 11)", desk.joining(10, 11), -4);
+        Check.due("join(10, 11)", desk.join(10, 11), 11);
+        Check.due("who(10)", desk.who(10), 3072);
     }
 }

@@ -99,7 +99,7 @@ final class RandomRunsTest {
         int most = below(5) == 0 ? 9999999 : 20 + below(2000);
         days = below(3) == 0 ? 999 : 12;
         marks = new ArrayList<>();
-        for (int i = 2 + below(10); i > 0; i--) {
+        for (int i = 2 + below(below(3) == 0 ? 60 : 10); i > 0; i--) {
             marks.add(1 + below(below(2) == 0 ? 12 : 9999));
         }
         StringBuilder text = new StringBuilder();
@@ -168,8 +168,8 @@ final class RandomRunsTest {
     // ---- calls
 
     private void act(int run) {
-        int p = number(9);
-        int q = number(9);
+        int p = number(below(3) == 0 ? 12 : 8);
+        int q = number(below(3) == 0 ? 12 : 8);
         int a = number(6);
         int v = below(15) == 0 ? number(9999999) : below(2500);
         switch (below(13)) {
@@ -208,10 +208,10 @@ final class RandomRunsTest {
     }
 
     private void ask(int run) {
-        int p = number(9);
-        int q = number(9);
+        int p = number(below(3) == 0 ? 12 : 8);
+        int q = number(below(3) == 0 ? 12 : 8);
         int a = number(6);
-        int d = number(5);
+        int d = number(below(3) == 0 ? 12 : 5);
         switch (below(20)) {
             case 0: {
                 int w = number(6);
