@@ -339,6 +339,12 @@ final class BookTest {
         Check.due("all LINES", desk.book(text.length()), 44);
         Check.due("trust(4, 3)", desk.trust(4, 3), 5);
         Check.due("HAS", desk.all(0), 1000);
+        Check.due("bestDay(0, 999, 1)", desk.bestDay(0, 999, 1), 1);
+        Check.due("bestDay(0, 999, 0)", desk.bestDay(0, 999, 0), 0);
+        Check.due("bestDay(1, 999, 0)", desk.bestDay(1, 999, 0), 3);
+        Check.due("view(0, 1)", desk.view(0, 1), 40);
+        Check.due("view(0, 4)", desk.view(0, 4), 0);
+        Check.due("ways(9, 0)", desk.ways(9, 0), 1);
         Check.due("one more LINE", Check.tell(desk, text + "cover 6;"), Check.fault(text.length(), 2));
     }
 }
