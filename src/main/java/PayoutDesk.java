@@ -726,7 +726,7 @@ public final class PayoutDesk {
             if (last == NONE || !passEnd()) {
                 return false;
             }
-            book.highs[book.highCount].tell(account, amount, first, last);
+            book.highs[book.highCount].setTo(account, amount, first, last);
             book.highCount++;
             return true;
         }
@@ -748,7 +748,7 @@ public final class PayoutDesk {
             if (due == NONE || !passEnd()) {
                 return false;
             }
-            book.loans[book.loanCount].tell(person, amount, due, LAST_DAY);
+            book.loans[book.loanCount].setTo(person, amount, due, LAST_DAY);
             book.loanCount++;
             return true;
         }
@@ -951,7 +951,7 @@ public final class PayoutDesk {
         private int first;
         private int last;
 
-        void tell(int newOf, int newAmount, int newFirst, int newLast) {
+        void setTo(int newOf, int newAmount, int newFirst, int newLast) {
             of = newOf;
             amount = newAmount;
             first = newFirst;
@@ -1380,33 +1380,28 @@ public final class PayoutDesk {
                 insider[d] = false;
             }
             for (int p = 0; p < book.personCount; p++) {
-                if (book.persons[p].insider) {
-                    insider[ties.depositorOf[p]] = true;
+                int d = ties.depositorOf[p];
+                if (d >= 0 && d < MOST_PERSONS) {
+                    addPerson(book, state.settings[CLOSED], shares, p, d);
                 }
             }
-            for (int a = 0; a < book.accountCount; a++) {
-                addShares(book.personCount, shares.ofAccount[a], has);
-            }
-            sumUpDated(book, state.settings[CLOSED], shares);
         }
 
-        private void sumUpDated(Book book, int day, Shares shares) {
+        private void addPerson(Book book, int day, Shares shares, int p, int d) {
+            insider[d] = insider[d] || book.persons[p].insider;
+            for (int a = 0; a < book.accountCount; a++) {
+                has[d] += shares.ofAccount[a][p];
+            }
             for (int l = 0; l < book.loanCount; l++) {
                 Dated loan = book.loans[l];
-                if (loan.countsOn(day) && loan.of >= 0 && loan.of < book.personCount) {
-                    owes[ties.depositorOf[loan.of]] += loan.amount;
+                if (loan.of == p && loan.countsOn(day)) {
+                    owes[d] += loan.amount;
                 }
             }
             for (int h = 0; h < book.highCount; h++) {
                 if (book.highs[h].countsOn(day)) {
-                    addShares(book.personCount, shares.ofHigh[h], high);
+                    high[d] += shares.ofHigh[h][p];
                 }
-            }
-        }
-
-        private void addShares(int persons, int[] ofPersons, long[] ofDepositors) {
-            for (int p = 0; p < persons; p++) {
-                ofDepositors[ties.depositorOf[p]] += ofPersons[p];
             }
         }
 

@@ -1,24 +1,47 @@
 import java.util.NoSuchElementException;
+import java.util.function.IntToLongFunction;
 import java.util.function.LongSupplier;
 
 /** What the tests share: telling a desk a text, and comparing answers with those that are due. */
 final class Check {
     private static int wrong = 0;
     private static int checked = 0;
+    private static String sentence = "";
 
     private Check() {
+    }
+
+    /**
+     * Names the sentence of ../shared/DOC.md that the answers from here on are due by: its section ("Terms 1",
+     * "Terms 2", "Promise 1", ..) and its words. DocTest reads these calls: each word of the document needs one.
+     */
+    static void sentence(String section, String words) {
+        sentence = section + ": " + words;
     }
 
     static void due(String call, long got, long want) {
         checked++;
         if (got != want) {
-            wrong++;
-            System.out.println(call + " answered " + got + ", due is " + want);
+            tellWrong(call + " answered " + got + ", due is " + want);
         }
     }
 
     static void due(String call, boolean got, boolean want) {
         due(call, got ? 1 : 0, want ? 1 : 0);
+    }
+
+    /** The answers of what 0, 1, .. are these. */
+    static void answers(String call, IntToLongFunction asked, long... want) {
+        for (int what = 0; what < want.length; what++) {
+            due(call + " " + what, asked.applyAsLong(what), want[what]);
+        }
+    }
+
+    /** The call answers the same to each of these. */
+    static void always(String call, IntToLongFunction asked, long want, int... inputs) {
+        for (int input : inputs) {
+            due(call + " " + input, asked.applyAsLong(input), want);
+        }
     }
 
     static void throwsNone(String call, LongSupplier asked) {
@@ -31,9 +54,13 @@ final class Check {
         }
         checked++;
         if (!thrown) {
-            wrong++;
-            System.out.println(call + " answered " + got + ", due is NoSuchElementException");
+            tellWrong(call + " answered " + got + ", due is NoSuchElementException");
         }
+    }
+
+    private static void tellWrong(String text) {
+        wrong++;
+        System.out.println(text + " (" + sentence + ")");
     }
 
     /** Feeds the text, filled up with blanks to whole feeds; what the last feed answered. */
@@ -59,8 +86,7 @@ final class Check {
         PayoutDesk desk = new PayoutDesk();
         int lines = tell(desk, text);
         if (lines < 1) {
-            wrong++;
-            System.out.println("no BOOK: " + text + " answered " + lines);
+            tellWrong("no BOOK: " + text + " answered " + lines);
         }
         return desk;
     }
@@ -68,6 +94,27 @@ final class Check {
     /** What book answers of a text with a FAULT of this kind at this place. */
     static int fault(int place, int kind) {
         return -2 - (8 * place + kind);
+    }
+
+    /** The text is a BOOK of so many LINES. */
+    static void good(String text, int lines) {
+        due("book of \"" + text + "\"", tell(new PayoutDesk(), text), lines);
+    }
+
+    /** The text has a FAULT of this kind where the sign ^, which is none of the text, stands. */
+    static void bad(String text, int kind) {
+        int place = text.indexOf('^');
+        String told = text.substring(0, place) + text.substring(place + 1);
+        due("book of \"" + told + "\"", tell(new PayoutDesk(), told), fault(place, kind));
+    }
+
+    /** So many LINES that differ in the last letter of a NAME: a, b, .. */
+    static String several(String ahead, int times, String behind) {
+        StringBuilder text = new StringBuilder();
+        for (int i = 0; i < times; i++) {
+            text.append(ahead).append((char) ('a' + i)).append(behind);
+        }
+        return text.toString();
     }
 
     static void finish(String name) {

@@ -69,6 +69,7 @@ final class FaceTest {
     }
 
     private static void aNewObjectHasNoBook() {
+        Check.sentence("Promise 1", "No BOOK; cover, raise, closed as without.");
         PayoutDesk desk = new PayoutDesk();
         long[] counts = {0, 0, 0, 0, 0, 0, 100000, 50000, 0, 0, 0, 0};
         for (int what = 0; what < counts.length; what++) {
