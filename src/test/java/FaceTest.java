@@ -42,6 +42,11 @@ final class FaceTest {
                 Check.due(method + " has a public one's name", names.contains(method.getName()), false);
             }
         }
+        for (Class<?> inside : PayoutDesk.class.getDeclaredClasses()) {
+            for (Method method : inside.getDeclaredMethods()) {
+                Check.due(method + " has a public one's name", names.contains(method.getName()), false);
+            }
+        }
         if (!got.equals(want)) {
             System.out.println("methods: " + got);
         }

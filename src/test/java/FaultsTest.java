@@ -86,8 +86,16 @@ final class FaultsTest {
         Check.due("book(10)", desk.book(10), Check.fault(10, 1));
         Check.feed(desk, "person ann; ");
         Check.due("book(8): ann is a", desk.book(8), Check.fault(8, 1));
+        Check.feed(desk, "cover 123;");
+        Check.due("book(7): 123 is 1", desk.book(7), Check.fault(7, 1));
+        Check.feed(desk, "cover 1   ;");
+        Check.due("book(8): of three blanks one", desk.book(8), Check.fault(8, 1));
         Check.feed(desk, "person ann; ");
         Check.due("book(0)", desk.book(0), Check.fault(0, 1));
+        // The last byte of a full TAPE is a digit, a letter, a blank.
+        Check.bad(" ".repeat(993) + "cover 5^", 1);
+        Check.bad(" ".repeat(992) + "person a^", 1);
+        Check.bad(" ".repeat(900) + "person a" + " ".repeat(92) + "^", 1);
     }
 
     private static void toldTwice() {

@@ -14,6 +14,7 @@ final class TapeTest {
         howManyBytesThereAre();
         oneFeedTooMany();
         theFirstBytesAreTheBook();
+        nothingOfABookAhead();
         aBookBeginsAnew();
         notSoManyBytes();
         aFaultLeavesAllElse();
@@ -181,6 +182,62 @@ final class TapeTest {
         Check.feed(desk, "person ann;");
         Check.due("book(3): a part of a WORD", desk.book(3), Check.fault(0, 1));
         Check.due("THE TAPE is empty", desk.count(11), 0);
+    }
+
+    /** Small BOOKS behind full ones and behind FAULTS answer all that they answer on a new object. */
+    private static void nothingOfABookAhead() {
+        String full = Check.several("person p", 12, " 1 insider;") + "trust ta pa 0;trust tb ta 8 pa 9;trust tc tb 0;"
+                + "trust td tc 1;trust te td 1;" + Check.several("account x", 10, " balance 90 pb 1 ta 3;")
+                + "high xa 50 from 0 to 9;".repeat(6) + "loan pa 70 due 0;".repeat(8) + "cover 3;raise 4;closed 5;";
+        String[] small = {"person q;", "cover 8;", "person q 1;person r 2;trust t;account x balance 50 q 1 r 1;",
+            "person q;person r;trust t r 5;account x balance 50 t 1;high x 20 from 0 to 1;loan r 4 due 0;cover 6;"};
+        for (String text : small) {
+            long[] want = everything(Check.told(text));
+            for (String ahead : new String[] {full, full + "!", "person a 1 insider;person b 1 2 ^;"}) {
+                PayoutDesk desk = Check.told(full);
+                Check.tell(desk, full);
+                Check.tell(desk, ahead);
+                Check.tell(desk, text);
+                long[] got = everything(desk);
+                for (int i = 0; i < want.length; i++) {
+                    Check.due("answer " + i + " of \"" + text + "\"", got[i], want[i]);
+                }
+            }
+        }
+    }
+
+    /** The answers to some of all questions. */
+    private static long[] everything(PayoutDesk desk) {
+        long[] all = new long[400];
+        int next = 0;
+        for (int i = 0; i < 3; i++) {
+            for (int what = 0; what < 7; what++) {
+                all[next++] = desk.person(i, what);
+                all[next++] = desk.trust(i, what);
+                all[next++] = desk.account(i, what);
+                all[next++] = desk.view(i, what);
+                all[next++] = desk.estate(15 * what, i);
+            }
+            for (int p = 0; p < 3; p++) {
+                all[next++] = desk.ways(i, p);
+                all[next++] = desk.apart(i, p);
+                all[next++] = desk.account(i, 0) >= 0 && desk.person(p, 0) >= 0 ? desk.share(i, p) : -9;
+            }
+            all[next++] = desk.view(i, 8);
+            all[next++] = desk.who(i);
+            all[next++] = desk.ranked(i);
+            all[next++] = desk.enough(i);
+            all[next++] = desk.onDay(i);
+            all[next++] = desk.mark(i, false) ? 1 : 0;
+        }
+        for (int what = 0; what < 12; what++) {
+            all[next++] = desk.count(what);
+            all[next++] = desk.all(what);
+        }
+        all[next++] = desk.bestDay(0, 999, 0);
+        all[next++] = desk.bestDay(0, 999, 1);
+        all[next++] = desk.coverFor(100);
+        return all;
     }
 
     private static void aBookBeginsAnew() {
