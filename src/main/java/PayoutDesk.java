@@ -1183,16 +1183,22 @@ public final class PayoutDesk {
         }
 
         void remember(State now) {
+            if (next < 0 || next >= past.length) {
+                next = 0;
+            }
             past[next].copyFrom(now);
-            next = next + 1 < MOST_UNDONE ? next + 1 : 0;
-            undoable = Math.min(undoable + 1, MOST_UNDONE);
+            next++;
+            undoable = Math.min(undoable + 1, past.length);
         }
 
         boolean takeBack(State now) {
             if (undoable == 0) {
                 return false;
             }
-            next = next > 0 ? next - 1 : MOST_UNDONE - 1;
+            if (next <= 0 || next > past.length) {
+                next = past.length;
+            }
+            next--;
             now.copyFrom(past[next]);
             undoable--;
             return true;
@@ -1318,7 +1324,7 @@ public final class PayoutDesk {
         }
 
         private int allOneWith(int person) {
-            int reached = near[person];
+            int reached = 1 << person;
             for (int steps = 0; steps < near.length; steps++) {
                 int wider = oneStepFrom(reached);
                 if (wider == reached) {
@@ -1332,7 +1338,7 @@ public final class PayoutDesk {
         private void numberDepositors(int persons) {
             depositors = 0;
             int numbered = 0;
-            for (int p = 0; p < persons; p++) {
+            for (int p = 0; p < persons && depositors < personsOf.length; p++) {
                 if (!holds(numbered, p)) {
                     int group = allOneWith(p);
                     personsOf[depositors] = group;

@@ -7,10 +7,12 @@ import java.util.function.LongSupplier;
 /** Promises 1 to 28 together: long runs of calls, the same each time, compared with NaiveDesk. */
 final class RandomRunsTest {
     private static final int RUNS = 400;
+    private static final int RUNS_OF_BOOKS = 300;
     private static final int CALLS = 512;
     private static final String[] WORDS = {"person", "insider", "trust", "account", "balance", "high", "from",
         "to", "loan", "due", "cover", "raise", "closed", "a", "b", "c", "pa", "ta", "xa", "abcdefgh", "abcdefghi",
         ";", "0", "1", "7", "99", "100", "999", "1000", "9999", "10000", "9999999", "12345678", "%", "A", "\t", "\n"};
+    private static final String BYTES = "  ;;\n\n\t\0\u00ff%AZ-/:`{abptz0159";
 
     private final Random random;
     private final PayoutDesk desk = new PayoutDesk();
@@ -26,6 +28,9 @@ final class RandomRunsTest {
     public static void main(String[] args) {
         for (int run = 0; run < RUNS; run++) {
             new RandomRunsTest(run).run(run);
+        }
+        for (int run = RUNS; run < RUNS + RUNS_OF_BOOKS; run++) {
+            new RandomRunsTest(run).runOfBooks(run);
         }
         Check.finish("RandomRunsTest");
     }
@@ -47,6 +52,16 @@ final class RandomRunsTest {
         }
     }
 
+    /** Texts alone, most of them with FAULTS, and what is told after each. */
+    private void runOfBooks(int run) {
+        while (calls < CALLS - 60) {
+            tellBook(run);
+            for (int what = 0; what < 6; what++) {
+                due(run, "count " + what, desk.count(what), naive.count(what));
+            }
+        }
+    }
+
     private int below(int bound) {
         return random.nextInt(bound);
     }
@@ -62,8 +77,11 @@ final class RandomRunsTest {
 
     private void tellBook(int run) {
         String text = book();
-        if (below(4) == 0) {
+        int spoil = below(8);
+        if (spoil < 2) {
             text = spoilt(text);
+        } else if (spoil == 2) {
+            text = spoiltByBytes(text);
         }
         text = text.substring(0, Math.min(text.length(), 1000));
         for (int at = 0; at < text.length(); at += 20) {
@@ -93,6 +111,22 @@ final class RandomRunsTest {
             }
         }
         return String.join(" ", tokens);
+    }
+
+    /** Bytes taken out, put in or told anew: TOKENS that are parted, grow together or are no more. */
+    private String spoiltByBytes(String text) {
+        StringBuilder bytes = new StringBuilder(text);
+        for (int i = below(3); i >= 0 && bytes.length() > 0; i--) {
+            int at = below(bytes.length());
+            char other = BYTES.charAt(below(BYTES.length()));
+            switch (below(4)) {
+                case 0: bytes.deleteCharAt(at); break;
+                case 1: bytes.insert(at, other); break;
+                case 2: bytes.setCharAt(at, other); break;
+                default: bytes.delete(at, Math.min(bytes.length(), at + 1 + below(25)));
+            }
+        }
+        return bytes.toString();
     }
 
     private String book() {
